@@ -19,6 +19,7 @@ public final class CheckingTest {
         leads();
         tenQueries();
         elevenByLead();
+        tenStepsDown();
         withinItself();
         twoEmpties();
         emptiesOfMail();
@@ -182,6 +183,18 @@ public final class CheckingTest {
         x.term(2, 2, ALL, 0, 0);
         checked(x, "the eleventh is a LEAD", 2, 0, 5, 10, 0);
         checked(x, "from the middle", 2, 1, 2, 3, 0);
+    }
+
+    private static void tenStepsDown() {
+        for (int kind = WITHIN; kind <= LEAD; kind += LEAD - WITHIN) {
+            MailVerdicts x = withDomains(12);
+            for (int d = 0; d < 11; d++) {
+                x.term(d, 2, kind, d + 1, 0);
+            }
+            x.term(11, 2, ALL, 0, 0);
+            checked(x, "ten steps of kind " + kind, 1, 1, 2, 10, 0);
+            checked(x, "eleven steps of kind " + kind, 1, 0, 5, 10, 0);
+        }
     }
 
     private static void withinItself() {
