@@ -120,7 +120,8 @@ public final class CanonicalFormTest {
         MailVerdicts x = Due.message(text, "a");
         Due.text("the longest form", Due.form(x, false, false), text + "\n\n");
         Due.same("length", x.length(false, false), 242);
-        Due.text("no body relaxed", Due.form(x, false, true), text + "\n");
+        MailVerdicts relaxed = Due.message(text, "a");
+        Due.text("no body relaxed", Due.form(relaxed, false, true), text + "\n");
         MailVerdicts y = Due.message("\n" + " ".repeat(239), "");
         Due.same("spaces plain", y.length(false, false), 240);
         Due.same("spaces relaxed", y.length(false, true), 0);

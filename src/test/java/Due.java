@@ -1,14 +1,20 @@
 /** Counts the answers of one test that are not the ones that are due. */
 final class Due {
     private static int wrong = 0;
+    private static String sentence = "";
 
     private Due() {
+    }
+
+    /** Names the sentence of the document that the answers to come belong to. */
+    static void about(String told) {
+        sentence = "[" + told + "] ";
     }
 
     static void same(String call, long got, long want) {
         if (got != want) {
             wrong++;
-            System.out.println(call + " answered " + got + ", due is " + want);
+            System.out.println(sentence + call + " answered " + got + ", due is " + want);
         }
     }
 
@@ -23,7 +29,8 @@ final class Due {
     static void text(String call, String got, String want) {
         if (!got.equals(want)) {
             wrong++;
-            System.out.println(call + " answered <" + shown(got) + ">, due is <" + shown(want) + ">");
+            System.out.println(
+                    sentence + call + " answered <" + shown(got) + ">, due is <" + shown(want) + ">");
         }
     }
 
@@ -43,6 +50,15 @@ final class Due {
         for (char c : text.toCharArray()) {
             yes("list(" + (int) c + ")", x.list(c));
         }
+    }
+
+    /** An object with so many domains that have no parent and are no suffix. */
+    static MailVerdicts domains(int count) {
+        MailVerdicts x = new MailVerdicts();
+        for (int d = 0; d < count; d++) {
+            same("domain " + d, x.domain(-1, false), d);
+        }
+        return x;
     }
 
     static MailVerdicts message(String text, String list) {

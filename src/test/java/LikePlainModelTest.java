@@ -37,9 +37,12 @@ public final class LikePlainModelTest {
         }
     }
 
+    /** What calls behind the last one answer is free, so it is not compared. */
     private void same(String call, long got, long want) {
         calls++;
-        Due.same("run " + run + ", call " + calls + ": " + call, got, want);
+        if (calls <= CALLS) {
+            Due.same("run " + run + ", call " + calls + ": " + call, got, want);
+        }
     }
 
     private void same(String call, boolean got, boolean want) {
@@ -131,7 +134,10 @@ public final class LikePlainModelTest {
                     calls++;
                 }
             }
-            case 1 -> typeAll(HEAD.substring(0, random.nextInt(HEAD.length() + 1)));
+            case 1 -> {
+                String heads = HEAD.repeat(random.nextInt(6) == 0 ? 4 : 1);
+                typeAll(heads.substring(0, random.nextInt(heads.length() + 1)));
+            }
             case 2, 3 -> typeAll(some(TYPED, random.nextInt(12)));
             case 4 -> typeAll("\n");
             case 5, 6 -> {
