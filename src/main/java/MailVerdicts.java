@@ -442,6 +442,7 @@ public final class MailVerdicts {
                     return outcomeOfMail(looked.target, looked.length);
                 case WITHIN:
                     return outcomeOfWithin(looked.target, depth);
+                case KNOWN:
                 default:
                     return looked.target.addressCount > 0 ? MATCHES : outcomeOfEmpty();
             }
