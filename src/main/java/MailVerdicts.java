@@ -39,18 +39,18 @@ public final class MailVerdicts {
     private final Domain[] domains;
     private int domainCount;
     private final Checking checking;
+    private final CanonicalForm form;
     private final Message message;
     private final Text names;
-    private final CanonicalForm form;
     private final Signature[] signatures;
     private int signatureCount;
 
     public MailVerdicts() {
         domains = new Domain[DOMAINS_MOST];
         checking = new Checking();
-        message = new Message();
-        names = new Text(LIST_MOST);
-        form = new CanonicalForm(message, names);
+        form = new CanonicalForm();
+        message = form.message;
+        names = form.names;
         signatures = new Signature[SIGNATURES_MOST];
     }
 
@@ -609,7 +609,7 @@ public final class MailVerdicts {
         }
     }
 
-    /** Writes the canonical form of the message for the list of names. */
+    /** The message and the list of names, and the canonical form that is written from them. */
     private static final class CanonicalForm {
         /** A last line may lack its 10, and a body without lines may get one. */
         static final int FORM_MOST = MESSAGE_MOST + 2;
@@ -621,9 +621,9 @@ public final class MailVerdicts {
         final int[] order;
         int takenCount;
 
-        CanonicalForm(Message message, Text names) {
-            this.message = message;
-            this.names = names;
+        CanonicalForm() {
+            message = new Message();
+            names = new Text(LIST_MOST);
             text = new Text(FORM_MOST);
             taken = new boolean[Message.FIELDS_MOST];
             order = new int[Message.FIELDS_MOST];

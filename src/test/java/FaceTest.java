@@ -19,6 +19,8 @@ public final class FaceTest {
     public static void main(String[] args) {
         Class<?> face = MailVerdicts.class;
         Due.yes("public and final", Modifier.isPublic(face.getModifiers()) && Modifier.isFinal(face.getModifiers()));
+        Due.yes("stands below Object alone", face.getSuperclass() == Object.class);
+        Due.same("interfaces", face.getInterfaces().length, 0);
         Set<String> seen = new TreeSet<>();
         for (Method method : face.getDeclaredMethods()) {
             if (!Modifier.isPrivate(method.getModifiers())) {

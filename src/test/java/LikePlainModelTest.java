@@ -2,7 +2,7 @@ import java.util.Random;
 
 /** Long runs of calls, the same ones each time, on the program and on the plain model. */
 public final class LikePlainModelTest {
-    private static final int RUNS = 3000;
+    private static final int RUNS = 4000;
     private static final int CALLS = 512;
     private static final String TYPED = "aAbB-:    \n\n\nx";
     private static final String HEAD = "A: x\nb:y \n z\na:  q  r\nB:\n";
@@ -27,13 +27,47 @@ public final class LikePlainModelTest {
     }
 
     private void go() {
-        int kind = run % 3;
+        int kind = run % 4;
+        if (kind == 3) {
+            openSigned();
+        }
         while (calls < CALLS) {
-            if (kind == 0 || kind == 2 && random.nextBoolean()) {
+            if (kind == 3) {
+                signedCall(random.nextInt(16));
+            } else if (kind == 0 || kind == 2 && random.nextBoolean()) {
                 domainCall(random.nextInt(14));
             } else {
                 messageCall(random.nextInt(16));
             }
+        }
+    }
+
+    /** Without some domains and a message with fields at first, hardly a signature would hold. */
+    private void openSigned() {
+        for (int d = 0; d < 5; d++) {
+            int parent = random.nextInt(d + 1) - 1;
+            boolean suffix = random.nextInt(4) == 0;
+            same("domain", x.domain(parent, suffix), model.domain(parent, suffix));
+        }
+        typeAll(HEAD);
+    }
+
+    private void signedCall(int which) {
+        boolean fields = random.nextBoolean();
+        boolean body = random.nextBoolean();
+        int d = someDomain();
+        switch (which) {
+            case 0, 1 -> keyCall(d);
+            case 2, 3, 4 -> signCall(d, fields, body);
+            case 5 -> wishCall(d);
+            case 6 -> typeAll(some(TYPED, random.nextInt(4)));
+            case 7 -> listAll(some(LISTED, random.nextInt(4)));
+            case 8 -> {
+                clearBoth();
+                typeAll(HEAD.substring(0, random.nextInt(HEAD.length() + 1)));
+            }
+            case 9, 10, 11, 12 -> holdsCall();
+            default -> verdictCall(d, someDomain());
         }
     }
 
@@ -71,8 +105,6 @@ public final class LikePlainModelTest {
         int d = someDomain();
         int e = someDomain();
         int number = someNumber();
-        boolean one = random.nextBoolean();
-        boolean other = random.nextBoolean();
         switch (which) {
             case 0 -> {
                 int parent = random.nextInt(3) == 0 ? -1 : d;
@@ -87,20 +119,28 @@ public final class LikePlainModelTest {
             case 2 -> same("exchanger", x.exchanger(d, e), model.exchanger(d, e));
             case 3, 4 -> termCall(d);
             case 5 -> keyCall(d);
-            case 6 -> {
-                int own = random.nextInt(random.nextInt(5) == 0 ? 4 : 3);
-                int below = random.nextInt(3);
-                same("wish", x.wish(d, own, below, one, other), model.wish(d, own, below, one, other));
-            }
+            case 6 -> wishCall(d);
             case 7, 8, 9, 10 -> {
                 same("check(" + number + ", " + d + ")", x.check(number, d), model.check(number, d));
                 counts();
             }
-            default -> {
-                same("verdict", x.verdict(number, d, e), model.verdict(number, d, e));
-                counts();
-            }
+            default -> verdictCall(d, e);
         }
+    }
+
+    private void verdictCall(int sender, int author) {
+        int number = someNumber();
+        String call = "verdict(" + number + ", " + sender + ", " + author + ")";
+        same(call, x.verdict(number, sender, author), model.verdict(number, sender, author));
+        counts();
+    }
+
+    private void wishCall(int d) {
+        int own = random.nextInt(random.nextInt(5) == 0 ? 4 : 3);
+        int below = random.nextInt(random.nextInt(5) == 0 ? 4 : 3);
+        boolean sender = random.nextBoolean();
+        boolean signer = random.nextBoolean();
+        same("wish", x.wish(d, own, below, sender, signer), model.wish(d, own, below, sender, signer));
     }
 
     private void termCall(int d) {
@@ -129,9 +169,7 @@ public final class LikePlainModelTest {
         switch (which) {
             case 0 -> {
                 if (random.nextInt(6) == 0) {
-                    x.clear();
-                    model.clear();
-                    calls++;
+                    clearBoth();
                 }
             }
             case 1 -> {
@@ -140,11 +178,7 @@ public final class LikePlainModelTest {
             }
             case 2, 3 -> typeAll(some(TYPED, random.nextInt(12)));
             case 4 -> typeAll("\n");
-            case 5, 6 -> {
-                for (char c : some(LISTED, random.nextInt(6)).toCharArray()) {
-                    same("list", x.list(c), model.list(c));
-                }
-            }
+            case 5, 6 -> listAll(some(LISTED, random.nextInt(6)));
             case 7 -> same("fields", x.fields(), model.fields());
             case 8 -> same("length", x.length(fields, body), model.length(fields, body));
             case 9, 10 -> {
@@ -152,16 +186,27 @@ public final class LikePlainModelTest {
                 same("at " + i, x.at(fields, body, i), model.at(fields, body, i));
             }
             case 11, 12 -> same("digest", x.digest(fields, body), model.digest(fields, body));
-            case 13 -> {
-                int d = someDomain();
-                int s = random.nextBoolean() ? random.nextInt(5) - 2 : random.nextInt();
-                same("sign", x.sign(d, fields, body, s), model.sign(d, fields, body, s));
-            }
-            default -> {
-                int i = random.nextInt(5) - 1;
-                same("holds " + i, x.holds(i), model.holds(i));
-            }
+            case 13 -> signCall(someDomain(), fields, body);
+            default -> holdsCall();
         }
+    }
+
+    private void clearBoth() {
+        x.clear();
+        model.clear();
+        calls++;
+    }
+
+    /** The digest itself is a signature that holds for each key with the exponent 1. */
+    private void signCall(int d, boolean fields, boolean body) {
+        int[] numbers = {random.nextInt(5) - 2, random.nextInt(), model.digest(fields, body)};
+        int s = numbers[random.nextInt(numbers.length)];
+        same("sign", x.sign(d, fields, body, s), model.sign(d, fields, body, s));
+    }
+
+    private void holdsCall() {
+        int i = random.nextInt(5) - 1;
+        same("holds " + i, x.holds(i), model.holds(i));
     }
 
     private String some(String from, int count) {
@@ -170,6 +215,12 @@ public final class LikePlainModelTest {
             text.append(from.charAt(random.nextInt(from.length())));
         }
         return text.toString();
+    }
+
+    private void listAll(String text) {
+        for (char c : text.toCharArray()) {
+            same("list", x.list(c), model.list(c));
+        }
     }
 
     private void typeAll(String text) {
